@@ -438,7 +438,7 @@ public final class LayeredImages {
             }
         }
 
-        // The layer shows yet what its parent shows, so that the parent need not be asked.
+        // The layer still shows what its parent shows, so that the parent need not be asked.
         private void carryOut(Layer layer, int input) {
             switch (kind) {
                 case COPY:
@@ -454,8 +454,10 @@ public final class LayeredImages {
                 case REMOVE:
                     layer.hold(first, WHITEOUT);
                     break;
-                default:
+                case SET:
                     layer.assign(first, second);
+                    break;
+                default:
                     break;
             }
         }

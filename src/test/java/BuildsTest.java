@@ -20,6 +20,7 @@ final class BuildsTest {
         promises17And18CountHitsAndMisses();
         promises17And18TellInstructionsApart();
         promises17And18TellParentsAndInputsApart();
+        promises17And18FilesAreNoInputOfOtherKinds();
         promise17GoneLayersAreNotFound();
         promise19CleanDigest();
         promise19LeavesAllAsItIs();
@@ -285,13 +286,20 @@ final class BuildsTest {
         x.setBase(0, 0, 9);
         x.setBase(0, 1, 9);
         int[][] made = {
-            {x.addCopy(0, 0, 1), x.build(0)}, {x.reset(0, 0), x.addCopy(0, 1, 1), x.build(0)},
-            {x.reset(0, 0), x.addCopy(0, 0, 0), x.build(0)}, {x.reset(0, 0), x.addRun(0, 0, 1), x.build(0)},
-            {x.reset(0, 0), x.addRun(0, 0, 2), x.build(0)}, {x.reset(0, 0), x.addRun(0, 1, 1), x.build(0)},
-            {x.reset(0, 0), x.addMove(0, 0, 1), x.build(0)}, {x.reset(0, 0), x.addMove(0, 1, 0), x.build(0)},
-            {x.reset(0, 0), x.addMove(0, 0, 2), x.build(0)}, {x.reset(0, 0), x.addRemove(0, 0), x.build(0)},
-            {x.reset(0, 0), x.addRemove(0, 1), x.build(0)}, {x.reset(0, 0), x.addSet(0, 0, 1), x.build(0)},
-            {x.reset(0, 0), x.addSet(0, 1, 1), x.build(0)}, {x.reset(0, 0), x.addSet(0, 0, 2), x.build(0)},
+            {x.addCopy(0, 0, 1), x.build(0)},
+            {x.reset(0, 0), x.addCopy(0, 1, 1), x.build(0)},
+            {x.reset(0, 0), x.addCopy(0, 0, 0), x.build(0)},
+            {x.reset(0, 0), x.addRun(0, 0, 1), x.build(0)},
+            {x.reset(0, 0), x.addRun(0, 0, 2), x.build(0)},
+            {x.reset(0, 0), x.addRun(0, 1, 1), x.build(0)},
+            {x.reset(0, 0), x.addMove(0, 0, 1), x.build(0)},
+            {x.reset(0, 0), x.addMove(0, 1, 0), x.build(0)},
+            {x.reset(0, 0), x.addMove(0, 0, 2), x.build(0)},
+            {x.reset(0, 0), x.addRemove(0, 0), x.build(0)},
+            {x.reset(0, 0), x.addRemove(0, 1), x.build(0)},
+            {x.reset(0, 0), x.addSet(0, 0, 1), x.build(0)},
+            {x.reset(0, 0), x.addSet(0, 1, 1), x.build(0)},
+            {x.reset(0, 0), x.addSet(0, 0, 2), x.build(0)},
         };
         for (int i = 0; i < made.length; i++) {
             CHECKS.same("each has a layer of its own", i + 1, made[i][made[i].length - 1]);
@@ -320,6 +328,21 @@ final class BuildsTest {
         CHECKS.same("another input", 5, x.build(2));
         x.setFile(4, 0);
         CHECKS.same("the first one again", 4, x.build(2));
+    }
+
+    private static void promises17And18FilesAreNoInputOfOtherKinds() {
+        LayeredImages x = new LayeredImages();
+        x.setBase(0, 3, 1);
+        x.addRun(0, 0, 0);
+        x.addMove(0, 3, 1);
+        x.addRemove(0, 1);
+        x.addSet(0, 2, 3);
+        x.build(0);
+        for (int file = 0; file < 8; file++) {
+            x.setFile(file, 5);
+        }
+        CHECKS.same("found again", 4, x.build(0));
+        CHECKS.same("all of them", 4, x.hits());
     }
 
     private static void promise17GoneLayersAreNotFound() {

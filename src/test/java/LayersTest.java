@@ -19,7 +19,7 @@ final class LayersTest {
         CHECKS.end();
     }
 
-    /** Layers: 0 root (0: 5, 11: 9999), 1 MOVE 0 to 4, 2 SET 3 to 8, 3 RUN 4 with 3, 4 REMOVE 11. */
+    /** Layers: 0 root (0: 5, 11: 9999), 1 MOVE 0 4, 2 SET 3 8, 3 RUN 4 3, 4 REMOVE 11. */
     private static LayeredImages withImage() {
         LayeredImages x = new LayeredImages();
         x.setBase(0, 0, 5);

@@ -255,16 +255,18 @@ final class RecipesTest {
             x.addSet(0, 0, 100 + i);
         }
         CHECKS.same("drop the first", 9, x.drop(0, 0));
+        CHECKS.same("the last one moves up", 109, x.variable(x.build(0), 0));
         CHECKS.same("drop in the middle", 8, x.drop(0, 4));
         CHECKS.same("drop the last", 7, x.drop(0, 7));
         int[] due = {101, 102, 103, 104, 106, 107, 108};
-        x.build(0);
-        for (int i = 0; i < due.length; i++) {
-            CHECKS.same("value of step " + i, due[i], x.variable(i + 1, 0));
+        x.start(0);
+        for (int value : due) {
+            CHECKS.same("value of a step", value, x.variable(x.step(), 0));
         }
+        int hits = x.hits();
         CHECKS.same("it is added at the end", 8, x.addSet(0, 0, 5));
         CHECKS.same("and carried out last", 5, x.variable(x.build(0), 0));
-        CHECKS.same("the others are found again", 7, x.hits());
+        CHECKS.same("the others are found again", hits + 7, x.hits());
     }
 
     private static void promise10WrongInputs() {

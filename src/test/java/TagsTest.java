@@ -11,6 +11,7 @@ final class TagsTest {
         promise22Tagged();
         promise23SquashHoldsJustTheDifference();
         promise23SquashFromThePlaceOn();
+        promises23And24KeepAllVariables();
         promise23SquashIsNotFoundByTheCache();
         promise23WrongInputsAndStates();
         promise24RebaseOnAnotherBase();
@@ -138,6 +139,22 @@ final class TagsTest {
         CHECKS.same("squash of a squashed one", 9, x.squash(1, 3));
         CHECKS.same("its parent", 2, x.parentOf(9));
         CHECKS.same("it holds the same", 3, x.sizeOf(9));
+    }
+
+    private static void promises23And24KeepAllVariables() {
+        LayeredImages x = new LayeredImages();
+        for (int variable = 0; variable < 4; variable++) {
+            x.addSet(0, variable, 5 + variable);
+        }
+        x.build(0);
+        x.tag(0);
+        int squashed = x.squash(0, 2);
+        int moved = x.rebase(0, 0);
+        for (int variable = 0; variable < 4; variable++) {
+            CHECKS.same("in the squashed layer", 5 + variable, x.variable(squashed, variable));
+            CHECKS.same("in the moved layer", 5 + variable, x.variable(moved, variable));
+        }
+        CHECKS.same("the parent keeps its own", 0, x.variable(x.parentOf(moved), 1));
     }
 
     private static void promise23SquashIsNotFoundByTheCache() {
