@@ -15,6 +15,14 @@ final class LayersTest {
         promise33ImageSize();
         promise34Digest();
         promise34DigestWithRemainder();
+        promise34DigestAtEachPathAlone();
+        promise34DigestAtTheEdgesOfTheRemainder();
+        promises26To34OfAnObjectWithoutLayers();
+        promise27ParentOfLayersOfSquashAndRebase();
+        promise28And33TheGreatestSizes();
+        promise29And30AtEachPath();
+        promise31EachVariableOfEachLayer();
+        promise32DepthFrom1To11();
         promises27To34OfNoLayer();
         CHECKS.end();
     }
@@ -137,6 +145,130 @@ final class LayersTest {
             due = (31 * due + 101 * path + 9999 - path) % 1000003;
         }
         CHECKS.same("of twelve contents", due, x.digest(x.start(0)));
+    }
+
+    private static void promise34DigestAtEachPathAlone() {
+        for (int path = 0; path < 12; path++) {
+            LayeredImages x = new LayeredImages();
+            x.setBase(0, path, 0);
+            CHECKS.same("content 0 at path " + path, 31 + 101 * path, x.digest(x.start(0)));
+            x.setBase(0, path, 9999);
+            CHECKS.same("9999 at path " + path, 31 + 101 * path + 9999, x.digest(x.start(0)));
+        }
+    }
+
+    /** 31 * (31 * (31 + 969) + 101 + 900) + 202 + 7770 is just 1000003. */
+    private static void promise34DigestAtTheEdgesOfTheRemainder() {
+        LayeredImages x = new LayeredImages();
+        x.setBase(0, 0, 969);
+        x.setBase(0, 1, 900);
+        int[] contents = {7769, 7770, 7771};
+        int[] due = {1000002, 0, 1};
+        for (int i = 0; i < due.length; i++) {
+            x.setBase(0, 2, contents[i]);
+            int root = x.start(0);
+            CHECKS.same("the remainder", due[i], x.digest(root));
+            CHECKS.same("of a clean build", due[i], x.cleanDigest(0));
+        }
+        x.setBase(0, 2, 7770);
+        x.setBase(0, 3, 0);
+        CHECKS.same("31 times 0, and the next path", 303, x.digest(x.start(0)));
+        x.setBase(0, 2, 7769);
+        CHECKS.same("31 times 1000002, and the next path", 303 - 31, x.digest(x.start(0)));
+    }
+
+    private static void promises26To34OfAnObjectWithoutLayers() {
+        LayeredImages x = new LayeredImages();
+        CHECKS.same("no layers", 0, x.layers());
+        CHECKS.outOfBounds("parentOf(0)", () -> x.parentOf(0));
+        CHECKS.outOfBounds("sizeOf(0)", () -> x.sizeOf(0));
+        CHECKS.outOfBounds("heldAt(0, 0)", () -> x.heldAt(0, 0));
+        CHECKS.outOfBounds("shownAt(0, 0)", () -> x.shownAt(0, 0));
+        CHECKS.outOfBounds("variable(0, 0)", () -> x.variable(0, 0));
+        CHECKS.outOfBounds("depth(0)", () -> x.depth(0));
+        CHECKS.outOfBounds("imageSize(0)", () -> x.imageSize(0));
+        CHECKS.outOfBounds("digest(0)", () -> x.digest(0));
+        CHECKS.same("still no layers", 0, x.layers());
+    }
+
+    private static void promise27ParentOfLayersOfSquashAndRebase() {
+        LayeredImages x = withImage();
+        x.tag(0);
+        CHECKS.same("of a squashed layer", 1, x.parentOf(x.squash(0, 2)));
+        CHECKS.same("of a moved layer", 7, x.parentOf(x.rebase(0, 2)));
+        CHECKS.same("of the first moved layer", 6, x.parentOf(7));
+        CHECKS.same("of the new root layer", NONE, x.parentOf(6));
+    }
+
+    /** Ten moves on a full base, the most that an image can hold: 12 + 10 * 2. */
+    private static void promise28And33TheGreatestSizes() {
+        LayeredImages x = new LayeredImages();
+        for (int path = 0; path < 12; path++) {
+            x.setBase(0, path, path);
+        }
+        for (int i = 0; i < 10; i++) {
+            x.addMove(0, i, i + 1);
+        }
+        x.build(0);
+        for (int layer = 0; layer <= 10; layer++) {
+            CHECKS.same("sizeOf " + layer, layer == 0 ? 12 : 2, x.sizeOf(layer));
+            CHECKS.same("imageSize " + layer, 12 + 2 * layer, x.imageSize(layer));
+        }
+        x.tag(0);
+        int squashed = x.squash(0, 1);
+        CHECKS.same("ten paths hidden, one with the content of path 0", 11, x.sizeOf(squashed));
+        CHECKS.same("its image", 23, x.imageSize(squashed));
+        x.rebase(0, 1);
+        CHECKS.same("on an empty base the content alone", 1, x.imageSize(x.tagged(0)));
+    }
+
+    private static void promise29And30AtEachPath() {
+        LayeredImages x = new LayeredImages();
+        x.setFile(0, 0);
+        for (int path = 0; path < 12; path++) {
+            x.reset(0, 0);
+            x.addCopy(0, 0, path);
+            x.addRemove(0, path);
+            int removed = x.build(0);
+            int copied = x.parentOf(removed);
+            for (int asked = 0; asked < 12; asked++) {
+                boolean told = asked == path;
+                CHECKS.same("held by COPY", told ? 0 : NONE, x.heldAt(copied, asked));
+                CHECKS.same("shown by COPY", told ? 0 : NONE, x.shownAt(copied, asked));
+                CHECKS.same("held by REMOVE", told ? WHITEOUT : NONE, x.heldAt(removed, asked));
+            }
+            CHECKS.same("shown by REMOVE", NONE, x.shownAt(removed, path));
+        }
+    }
+
+    private static void promise31EachVariableOfEachLayer() {
+        LayeredImages x = new LayeredImages();
+        for (int variable = 0; variable < 4; variable++) {
+            x.reset(0, 0);
+            x.addSet(0, variable, 999);
+            x.addSet(0, variable, 0);
+            int again = x.build(0);
+            int set = x.parentOf(again);
+            for (int asked = 0; asked < 4; asked++) {
+                CHECKS.same("of SET 999", asked == variable ? 999 : 0, x.variable(set, asked));
+                CHECKS.same("of SET 0", 0, x.variable(again, asked));
+                CHECKS.same("of the root layer", 0, x.variable(0, asked));
+            }
+        }
+    }
+
+    private static void promise32DepthFrom1To11() {
+        LayeredImages x = new LayeredImages();
+        for (int i = 0; i < 10; i++) {
+            x.addRun(0, 0, 0);
+        }
+        x.build(0);
+        for (int layer = 0; layer <= 10; layer++) {
+            CHECKS.same("depth", layer + 1, x.depth(layer));
+        }
+        x.tag(0);
+        CHECKS.same("of a squashed layer on the root layer", 2, x.depth(x.squash(0, 1)));
+        CHECKS.same("of a moved layer", 2, x.depth(x.rebase(0, 2)));
     }
 
     private static void promises27To34OfNoLayer() {
