@@ -21,6 +21,7 @@ final class BuildEdgesTest {
         promise16ALayerInATaggedImageIsNotGone();
         promise16TheRootLayerIsGone();
         promises17And18CountStepsAlone();
+        promises17And18EachContentIsAnInputOfItsOwn();
         promises17And18TheRecipeDoesNotMatter();
         promises17And18LayersOfAFailedBuildAreFound();
         promises17And18AGoneChildOfALayerThatStays();
@@ -312,6 +313,22 @@ final class BuildEdgesTest {
         counts(x, 2, 2);
         x.prune();
         counts(x, 2, 2);
+    }
+
+    private static void promises17And18EachContentIsAnInputOfItsOwn() {
+        LayeredImages x = new LayeredImages();
+        int[] contents = {0, 1, 2, 4999, 5000, 9998, 9999};
+        x.addCopy(0, 7, 11);
+        for (int i = 0; i < contents.length; i++) {
+            x.setFile(7, contents[i]);
+            CHECKS.same("made with " + contents[i], i + 1, x.build(0));
+        }
+        counts(x, 0, contents.length);
+        for (int i = 0; i < contents.length; i++) {
+            x.setFile(7, contents[i]);
+            CHECKS.same("found with " + contents[i], i + 1, x.build(0));
+        }
+        counts(x, contents.length, contents.length);
     }
 
     private static void promises17And18TheRecipeDoesNotMatter() {

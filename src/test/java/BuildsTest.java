@@ -317,17 +317,22 @@ final class BuildsTest {
         CHECKS.same("on one parent", 1, x.build(0));
         CHECKS.same("on another parent", 3, x.build(1));
         CHECKS.same("on the first one again", 1, x.build(0));
+        x.addRun(1, 6, 0);
+        CHECKS.same("on the younger parent", 4, x.build(1));
+        x.addRun(0, 6, 0);
+        CHECKS.same("then on the older one", 5, x.build(0));
+        x.drop(0, 1);
         // The base does not matter but for the root layer that it gives.
         x.setBase(0, 0, 1);
         CHECKS.same("another base, the same root layer", 3, x.build(0));
         x.reset(2, 2);
         x.addCopy(2, 4, 4);
         x.setFile(4, 0);
-        CHECKS.same("one input", 4, x.build(2));
+        CHECKS.same("one input", 6, x.build(2));
         x.setFile(4, 1);
-        CHECKS.same("another input", 5, x.build(2));
+        CHECKS.same("another input", 7, x.build(2));
         x.setFile(4, 0);
-        CHECKS.same("the first one again", 4, x.build(2));
+        CHECKS.same("the first one again", 6, x.build(2));
     }
 
     private static void promises17And18FilesAreNoInputOfOtherKinds() {

@@ -46,12 +46,13 @@ enum Examples {
         }
     },
 
-    /** As COMPLETE, but 400 layers were made. */
+    /** As COMPLETE, but 400 layers were made, and no root layer is there for the bases 1 and 2. */
     CLOSED {
         @Override
         LayeredImages make() {
             LayeredImages x = COMPLETE.make();
             makeLayers(x, 400);
+            makeBasesNew(x);
             return x;
         }
     },
@@ -65,6 +66,7 @@ enum Examples {
             x.setBase(1, 6, 1);
             x.start(1);
             x.step();
+            makeBasesNew(x);
             return x;
         }
     };
@@ -96,6 +98,12 @@ enum Examples {
         x.addSet(2, 0, 1);
         x.reset(3, 2);
         return x;
+    }
+
+    /** No root layer holds what the bases 1 and 2 show then, so that one would have to be made. */
+    private static void makeBasesNew(LayeredImages x) {
+        x.setBase(1, 7, 1);
+        x.setBase(2, 7, 2);
     }
 
     /** Makes layers until so many were made; recipe 1 makes 11 a build, recipe 3 one. */

@@ -9,25 +9,53 @@ import java.util.ArrayList;
 import java.util.Arrays;
 import java.util.Collections;
 import java.util.List;
+import java.util.Map;
+import java.util.TreeMap;
 import java.util.regex.Matcher;
 import java.util.regex.Pattern;
 
-/** The public face as the document tells it, and what of LANGUAGE.md can be read off the file. */
+/** The public face as the document tells it, and what of LANGUAGE.md can be read off the class. */
 final class FaceTest {
     private static final Checks CHECKS = new Checks("FaceTest");
     private static final Path DOCUMENT = Path.of("../shared/DOC.md");
     private static final Path PROGRAM = Path.of("src/main/java/LayeredImages.java");
-    private static final String[] FORBIDDEN = {
-        "->", "::", "finally", "synchronized", "assert ", "catch", "static {", "package ",
-        "Exact", "System.", "Random", "Thread", "import java.util.Arrays;\nimport", "volatile"};
+    private static final List<Class<?>> CONSTANT_TYPES = List.of(int.class, long.class,
+            boolean.class, char.class, String.class, int[].class, long[].class, char[].class,
+            byte[].class);
+    /** By the number of the rule; an arrow is a lambda unless a label of a switch ends with it. */
+    private static final Map<String, String> FORBIDDEN = new TreeMap<>(Map.of(
+            "1 a package", "\\bpackage\\b",
+            "2 a lambda", "(?m)^(?!\\s*(?:case\\b|default\\b)).*->",
+            "2 a method reference", "::",
+            "4 another import", "\\bimport\\s+(?!java\\.util\\."
+                    + "(?:Arrays|ArrayList|List|Iterator|NoSuchElementException);)",
+            "4 exact arithmetic", "\\w+Exact\\s*\\(",
+            "5 a static block", "\\bstatic\\s*\\{",
+            "6 another exception", "\\bnew\\s+(?!(?:IllegalState|IllegalArgument|IndexOutOfBounds"
+                    + "|Arithmetic|UnsupportedOperation|NoSuchElement|Runtime)Exception\\b)"
+                    + "\\w*(?:Exception|Error)\\b",
+            "6 a word that is not allowed", "\\b(?:finally|synchronized|assert|volatile)\\b",
+            "6 the machine's own exceptions", "\\b(?:ArrayIndexOutOfBounds|NullPointer|ClassCast"
+                    + "|NegativeArraySize|ArrayStore)Exception\\b|\\bThrowable\\b",
+            "13 a clock, a random source, a thread", "\\bSystem\\.(?!arraycopy\\b)"
+                    + "|\\bMath\\.random\\b|\\b(?:Random|Thread|Runtime)\\b"));
 
     public static void main(String[] args) throws IOException {
         methodsAreThoseOfTheDocument();
         nothingElseIsVisible();
+        constantsAreThoseOfTheDocument();
         noPrivateMethodHasAPublicName();
         staticFieldsAreConstants();
+        sizesAreKept();
         nothingForbiddenIsWritten();
         CHECKS.end();
+    }
+
+    private static List<Class<?>> classes() {
+        List<Class<?>> classes = new ArrayList<>(
+                Arrays.asList(LayeredImages.class.getDeclaredClasses()));
+        classes.add(LayeredImages.class);
+        return classes;
     }
 
     private static void methodsAreThoseOfTheDocument() throws IOException {
@@ -41,7 +69,7 @@ final class FaceTest {
         }
         List<String> got = new ArrayList<>();
         for (Method method : LayeredImages.class.getDeclaredMethods()) {
-            if (!Modifier.isPrivate(method.getModifiers())) {
+            if (!Modifier.isPrivate(method.getModifiers()) && !method.isSynthetic()) {
                 got.add(Modifier.toString(method.getModifiers()) + " " + method.getReturnType()
                         + " " + method.getName() + "/" + method.getParameterCount() + " "
                         + thrownBy(method));
@@ -77,11 +105,33 @@ final class FaceTest {
         }
         for (Class<?> inside : LayeredImages.class.getDeclaredClasses()) {
             int modifiers = inside.getModifiers();
-            CHECKS.holds(inside + " is private and static",
-                    Modifier.isPrivate(modifiers) && Modifier.isStatic(modifiers));
+            CHECKS.holds(inside + " is private or package-visible",
+                    !Modifier.isPublic(modifiers) && !Modifier.isProtected(modifiers));
         }
-        CHECKS.holds("some twelve classes",
-                LayeredImages.class.getDeclaredClasses().length <= 11);
+    }
+
+    private static void constantsAreThoseOfTheDocument() throws IOException {
+        Matcher line = Pattern.compile("    public static final int (\\w+) = (-?\\d+);")
+                .matcher(Files.readString(DOCUMENT));
+        int constants = 0;
+        while (line.find()) {
+            constants++;
+            CHECKS.same(line.group(1), Integer.parseInt(line.group(2)), valueOf(line.group(1)));
+        }
+        CHECKS.same("constants of the document", 2, constants);
+    }
+
+    private static int valueOf(String constant) {
+        try {
+            Field field = LayeredImages.class.getField(constant);
+            int modifiers = field.getModifiers();
+            CHECKS.holds(constant + " is static and final",
+                    Modifier.isStatic(modifiers) && Modifier.isFinal(modifiers));
+            return field.getInt(null);
+        } catch (ReflectiveOperationException e) {
+            CHECKS.holds(constant + " cannot be read: " + e, false);
+            return 0;
+        }
     }
 
     private static void noPrivateMethodHasAPublicName() {
@@ -89,36 +139,58 @@ final class FaceTest {
         for (Method method : LayeredImages.class.getMethods()) {
             names.add(method.getName());
         }
-        List<Class<?>> classes = new ArrayList<>(
-                Arrays.asList(LayeredImages.class.getDeclaredClasses()));
-        classes.add(LayeredImages.class);
-        for (Class<?> inside : classes) {
-            for (Method method : inside.getDeclaredMethods()) {
+        for (Class<?> owner : classes()) {
+            for (Method method : owner.getDeclaredMethods()) {
                 CHECKS.holds(method + " has a name of its own",
-                        Modifier.isPublic(method.getModifiers())
+                        !Modifier.isPrivate(method.getModifiers()) || method.isSynthetic()
                                 || !names.contains(method.getName()));
             }
         }
     }
 
     private static void staticFieldsAreConstants() {
-        List<Class<?>> classes = new ArrayList<>(
-                Arrays.asList(LayeredImages.class.getDeclaredClasses()));
-        classes.add(LayeredImages.class);
-        for (Class<?> inside : classes) {
-            for (Field field : inside.getDeclaredFields()) {
-                boolean free = !Modifier.isStatic(field.getModifiers());
-                CHECKS.holds(field + " is no changing static field", free
-                        || Modifier.isFinal(field.getModifiers()) && field.getType() == int.class);
+        for (Class<?> owner : classes()) {
+            for (Field field : owner.getDeclaredFields()) {
+                boolean free = !Modifier.isStatic(field.getModifiers()) || field.isSynthetic();
+                boolean listed = CONSTANT_TYPES.contains(field.getType())
+                        || field.getType().isEnum()
+                        || field.getType().isArray() && field.getType().getComponentType().isEnum();
+                CHECKS.holds(field + " is no changing static field",
+                        free || Modifier.isFinal(field.getModifiers()) && listed);
+            }
+        }
+    }
+
+    private static void sizesAreKept() {
+        CHECKS.holds("some twelve classes", classes().size() <= 12);
+        for (Class<?> owner : classes()) {
+            int fields = 0;
+            for (Field field : owner.getDeclaredFields()) {
+                fields += Modifier.isStatic(field.getModifiers()) ? 0 : 1;
+            }
+            CHECKS.holds("some twenty fields in " + owner, fields <= 20);
+            for (Method method : owner.getDeclaredMethods()) {
+                CHECKS.holds("at most seven parameters in " + method,
+                        method.getParameterCount() <= 7);
             }
         }
     }
 
     private static void nothingForbiddenIsWritten() throws IOException {
         String text = Files.readString(PROGRAM);
-        for (String word : FORBIDDEN) {
-            CHECKS.holds("'" + word + "' stands in the program", !text.contains(word));
-        }
         CHECKS.holds("a sign above 127", text.chars().allMatch(sign -> sign < 128));
+        String code = withoutTextsAndComments(text);
+        CHECKS.holds("the program is read", code.contains("public final class LayeredImages {"));
+        for (Map.Entry<String, String> rule : FORBIDDEN.entrySet()) {
+            Matcher found = Pattern.compile(rule.getValue()).matcher(code);
+            CHECKS.holds("rule " + rule.getKey() + " stands in the program", !found.find());
+        }
+    }
+
+    private static String withoutTextsAndComments(String text) {
+        return text.replaceAll("\"(?:[^\"\\\\\\n]|\\\\.)*\"", "\"\"")
+                .replaceAll("'(?:[^'\\\\\\n]|\\\\.)+'", "' '")
+                .replaceAll("//[^\\n]*", "")
+                .replaceAll("(?s)/\\*.*?\\*/", "");
     }
 }

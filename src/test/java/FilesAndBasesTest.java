@@ -56,13 +56,25 @@ final class FilesAndBasesTest {
 
     private static void promise1ObjectsAreApart() {
         LayeredImages first = new LayeredImages();
+        LayeredImages second = new LayeredImages();
         first.setFile(0, 5);
         first.setBase(1, 1, 6);
         first.addRun(2, 0, 0);
-        LayeredImages second = new LayeredImages();
+        first.build(2);
+        first.tag(3);
+        new LayeredImages();
         CHECKS.same("a file of another object", NONE, second.setFile(0, 1));
         CHECKS.same("a base of another object", NONE, second.setBase(1, 1, 1));
         CHECKS.same("a recipe of another object", 0, second.instructions(2));
+        CHECKS.same("layers of another object", 0, second.layers());
+        CHECKS.same("misses of another object", 0, second.misses());
+        CHECKS.same("the build of another object", NONE, second.built());
+        CHECKS.same("a tag of another object", NONE, second.tagged(3));
+        CHECKS.same("the file stays", 5, first.setFile(0, 5));
+        CHECKS.same("the base stays", 6, first.setBase(1, 1, 6));
+        CHECKS.same("the recipe stays", 1, first.instructions(2));
+        CHECKS.same("the layers stay", 2, first.layers());
+        CHECKS.same("the tag stays", 1, first.tagged(3));
     }
 
     private static void promise2AnswersTheContentBefore() {

@@ -17,6 +17,7 @@ final class LayersTest {
         promise34DigestWithRemainder();
         promise34DigestAtEachPathAlone();
         promise34DigestAtTheEdgesOfTheRemainder();
+        promise34DigestOfContentsAbove9999();
         promises26To34OfAnObjectWithoutLayers();
         promise27ParentOfLayersOfSquashAndRebase();
         promise28And33TheGreatestSizes();
@@ -77,6 +78,9 @@ final class LayersTest {
         CHECKS.same("content", 5, x.heldAt(1, 4));
         CHECKS.same("nothing, though the parent shows some", NONE, x.heldAt(1, 11));
         CHECKS.same("SET holds nothing", NONE, x.heldAt(2, 4));
+        CHECKS.same("content of RUN", 164, x.heldAt(3, 4));
+        CHECKS.same("nothing beside it", NONE, x.heldAt(3, 0));
+        CHECKS.same("WHITEOUT over a root layer", WHITEOUT, x.heldAt(4, 11));
         CHECKS.outOfBounds("heldAt(0, -1)", () -> x.heldAt(0, -1));
         CHECKS.outOfBounds("heldAt(0, 12)", () -> x.heldAt(0, 12));
         CHECKS.outOfBounds("heldAt(5, 12)", () -> x.heldAt(5, 12));
@@ -130,7 +134,10 @@ final class LayersTest {
     private static void promise34Digest() {
         LayeredImages x = withImage();
         CHECKS.same("path 4 alone", 31 + 404 + 164, x.digest(4));
+        CHECKS.same("path 0 and path 11", 31 * (31 + 5) + 1111 + 9999, x.digest(0));
         CHECKS.same("path 4 and path 11", 31 * (31 + 404 + 5) + 1111 + 9999, x.digest(1));
+        CHECKS.same("SET shows the same", 31 * (31 + 404 + 5) + 1111 + 9999, x.digest(2));
+        CHECKS.same("RUN at path 4", 31 * (31 + 404 + 164) + 1111 + 9999, x.digest(3));
         x.reset(1, 1);
         CHECKS.same("of nothing", 1, x.digest(x.start(1)));
         x.setBase(1, 0, 0);
@@ -175,6 +182,20 @@ final class LayersTest {
         CHECKS.same("31 times 0, and the next path", 303, x.digest(x.start(0)));
         x.setBase(0, 2, 7769);
         CHECKS.same("31 times 1000002, and the next path", 303 - 31, x.digest(x.start(0)));
+    }
+
+    /** RUN makes contents up to 10006, which is 31 * 322 + 23 + 1. */
+    private static void promise34DigestOfContentsAbove9999() {
+        for (int content = 10000; content <= 10006; content++) {
+            LayeredImages x = new LayeredImages();
+            x.setBase(0, 2, 322);
+            x.addSet(0, 1, content - 31 * 322 - 1);
+            x.addRun(0, 2, 1);
+            int top = x.build(0);
+            CHECKS.same("the content", content, x.shownAt(top, 2));
+            CHECKS.same("its digest", 31 + 202 + content, x.digest(top));
+            CHECKS.same("of a clean build", 31 + 202 + content, x.cleanDigest(0));
+        }
     }
 
     private static void promises26To34OfAnObjectWithoutLayers() {

@@ -1,64 +1,102 @@
 import java.io.IOException;
 import java.nio.file.Files;
 import java.nio.file.Path;
+import java.util.ArrayList;
 import java.util.List;
-import java.util.Set;
-import java.util.TreeSet;
 
-/** The table src/test/SENTENCES.md: its sentences, its tests, and that nothing is left out. */
+/** The table src/test/SENTENCES.md: no sentence of the document is left out, no test is invented. */
 final class SentencesTest {
     private static final Checks CHECKS = new Checks("SentencesTest");
     private static final Path DOCUMENT = Path.of("../shared/DOC.md");
     private static final Path TABLE = Path.of("src/test/SENTENCES.md");
     private static final Path TESTS = Path.of("src/test/java");
+    private static final String PROMISE = "## Promise ";
+    private static final String WITHOUT_TESTS = "## Sentences that name no answer";
+
+    /** The promise is "" in a sentence that stands in no promise. */
+    private record Sentence(String promise, String text) { }
+
+    private record Row(Sentence sentence, String tests) { }
 
     public static void main(String[] args) throws IOException {
-        String document = Files.readString(DOCUMENT).replaceAll("\\s+", " ");
-        Set<Integer> promises = new TreeSet<>();
-        for (String line : Files.readAllLines(TABLE)) {
-            String[] cells = line.split(" *\\| *");
-            if (cells.length >= 3 && !cells[1].matches("sentence|promise|---")) {
-                int sentence = cells.length - 2;
-                if (sentence == 2) {
-                    promises.add(Integer.valueOf(cells[1]));
-                }
-                String part = sentence == 2 ? ofPromise(document, cells[1]) : document;
-                CHECKS.holds("the document has not: " + line, part.contains(cells[sentence]));
-                testsStand(cells[sentence + 1]);
-            }
+        List<Sentence> sentences = sentencesOfTheDocument();
+        List<Row> rows = rowsOfTheTable();
+        CHECKS.holds("the document has sentences", sentences.size() > 200);
+        eachSentenceHasARow(sentences, rows);
+        eachRowStandsInTheDocument(sentences, rows);
+        for (Row row : rows) {
+            testsStand(row);
         }
-        CHECKS.same("promises with a sentence", 34, promises.size());
-        eachThrowsClauseHasARow();
         CHECKS.end();
     }
 
-    private static void eachThrowsClauseHasARow() throws IOException {
-        List<String> rows = Files.readAllLines(TABLE);
+    /** Without headings and the code block of the face, which FaceTest holds. */
+    private static List<Sentence> sentencesOfTheDocument() throws IOException {
+        List<Sentence> sentences = new ArrayList<>();
         String promise = "";
+        boolean isCode = false;
         for (String line : Files.readAllLines(DOCUMENT)) {
-            if (line.startsWith("## Promise ")) {
-                promise = line.substring("## Promise ".length(), line.indexOf(':'));
-            } else if (line.startsWith("Throws ")) {
-                String row = "| " + promise + " | " + line.strip() + " | ";
-                CHECKS.holds("no row for " + row, rows.stream().anyMatch(r -> r.startsWith(row)));
+            if (line.startsWith("```")) {
+                isCode = !isCode;
+            } else if (line.startsWith(PROMISE)) {
+                promise = line.substring(PROMISE.length(), line.indexOf(':'));
+            } else if (line.startsWith("#")) {
+                promise = "";
+            } else if (!isCode && !line.isBlank()) {
+                for (String text : withoutItsSign(line).split("(?<=[.)])\\s+(?=[A-Z(])")) {
+                    sentences.add(new Sentence(promise, text.strip()));
+                }
             }
+        }
+        return sentences;
+    }
+
+    /** A line without the bullet or the signature of a method that it begins with. */
+    private static String withoutItsSign(String line) {
+        return line.replaceFirst("^- ", "").replaceFirst("^`[^`]*\\)[^`]*`: ", "");
+    }
+
+    private static List<Row> rowsOfTheTable() throws IOException {
+        List<Row> rows = new ArrayList<>();
+        boolean hasTests = true;
+        for (String line : Files.readAllLines(TABLE)) {
+            String[] cells = line.split(" *\\| *");
+            if (line.startsWith(WITHOUT_TESTS)) {
+                hasTests = false;
+            } else if (cells.length >= 3 && !cells[1].matches("sentence|promise|---")) {
+                boolean ofPromise = cells.length == 4;
+                String tests = cells[cells.length - 1];
+                CHECKS.holds("a row tells tests or why there are none: " + line, !tests.isEmpty());
+                rows.add(new Row(
+                        new Sentence(ofPromise ? cells[1] : "", cells[ofPromise ? 2 : 1]),
+                        hasTests ? tests : ""));
+            }
+        }
+        return rows;
+    }
+
+    private static void eachSentenceHasARow(List<Sentence> sentences, List<Row> rows) {
+        for (Sentence sentence : sentences) {
+            CHECKS.holds("no row for " + sentence,
+                    rows.stream().anyMatch(row -> row.sentence().equals(sentence)));
         }
     }
 
-    private static String ofPromise(String document, String promise) {
-        int begin = document.indexOf("## Promise " + promise + ":");
-        int end = document.indexOf("## ", begin + 1);
-        CHECKS.holds("no promise " + promise, begin >= 0 && end > begin);
-        return begin >= 0 && end > begin ? document.substring(begin, end) : "";
+    private static void eachRowStandsInTheDocument(List<Sentence> sentences, List<Row> rows) {
+        for (Row row : rows) {
+            CHECKS.holds("the document has not " + row, sentences.contains(row.sentence()));
+        }
     }
 
-    private static void testsStand(String names) throws IOException {
-        for (String name : names.split(" ")) {
-            String[] parts = name.split("\\.");
-            String text = Files.readString(TESTS.resolve(parts[0] + ".java"));
-            CHECKS.holds(name + " stands in its file",
-                    text.contains("static void " + parts[1] + "()"));
-            CHECKS.holds(name + " is called", text.contains("        " + parts[1] + "();"));
+    private static void testsStand(Row row) throws IOException {
+        if (!row.tests().isEmpty()) {
+            for (String name : row.tests().split(" ")) {
+                String[] parts = name.split("\\.");
+                String text = Files.readString(TESTS.resolve(parts[0] + ".java"));
+                CHECKS.holds(name + " stands in its file",
+                        text.contains("static void " + parts[1] + "()"));
+                CHECKS.holds(name + " is called", text.contains("        " + parts[1] + "();"));
+            }
         }
     }
 }

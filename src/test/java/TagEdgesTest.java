@@ -23,7 +23,9 @@ final class TagEdgesTest {
         promise24RootLayersWithLessOrMoreAreNotTaken();
         promise24WhiteoutAtEachPath();
         promise24ContentsAreHeldThoughTheParentShowsThem();
+        promise24ContentsAreThoseOfTheOldLayers();
         promise24OtherTagsAndOldLayersStay();
+        promises23And24BehindGoneLayers();
         promise25NothingAndAll();
         promise25EachOfFiveTags();
         promise25TwoTagsForOneLayer();
@@ -303,6 +305,28 @@ final class TagEdgesTest {
         CHECKS.same("one path", 1, x.sizeOf(5));
     }
 
+    /** COPY, RUN and MOVE would make other contents now, on the base on which the image is put. */
+    private static void promise24ContentsAreThoseOfTheOldLayers() {
+        LayeredImages x = new LayeredImages();
+        x.setFile(0, 3);
+        x.setBase(0, 1, 10);
+        x.setBase(0, 2, 20);
+        x.setBase(1, 1, 11);
+        x.setBase(1, 2, 21);
+        x.addCopy(0, 0, 0);
+        x.addRun(0, 1, 0);
+        x.addMove(0, 2, 4);
+        x.build(0);
+        x.tag(0);
+        x.setFile(0, NONE);
+        CHECKS.same("rebase", 7, x.rebase(0, 1));
+        CHECKS.same("COPY", 3, x.heldAt(5, 0));
+        CHECKS.same("RUN", 311, x.heldAt(6, 1));
+        CHECKS.same("MOVE, to", 20, x.heldAt(7, 4));
+        CHECKS.same("MOVE, from", WHITEOUT, x.heldAt(7, 2));
+        CHECKS.same("what is shown", x.digest(3), x.digest(7));
+    }
+
     private static void promise24OtherTagsAndOldLayersStay() {
         LayeredImages x = withRuns(1);
         for (int tag = 1; tag < 5; tag++) {
@@ -316,6 +340,19 @@ final class TagEdgesTest {
         }
         CHECKS.same("the old layer stays", 0, x.parentOf(1));
         CHECKS.same("nothing to prune", 0, x.prune());
+    }
+
+    private static void promises23And24BehindGoneLayers() {
+        LayeredImages x = withRuns(2);
+        x.untag(0);
+        CHECKS.same("all are gone", 3, x.prune());
+        CHECKS.same("built again", 5, x.build(0));
+        CHECKS.same("tagged again", NONE, x.tag(0));
+        CHECKS.same("squash", 6, x.squash(0, 1));
+        CHECKS.same("on the root layer that is there", 3, x.parentOf(6));
+        CHECKS.same("rebase", 7, x.rebase(0, 0));
+        CHECKS.same("on the root layer that is there", 3, x.parentOf(7));
+        CHECKS.same("it shows the same", x.digest(5), x.digest(7));
     }
 
     private static void promise25NothingAndAll() {
